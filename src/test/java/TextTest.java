@@ -1,0 +1,302 @@
+/** Promises 1 to 5, and what a dinner may tell: tokens, lines, limits, faults and their places, formulas. */
+final class TextTest {
+    private static final String A = "guest a takes 1 slow 1;";
+    private static final String AB = A + "guest b takes 1 slow 1;";
+    private static final String[] OWN_WORDS = {"guest", "takes", "slow", "feud", "boat", "heat", "across", "cools",
+        "leans", "draw", "or", "and", "not", "left", "minute", "seat", "guests"};
+
+    public static void main(String[] args) {
+        newObject();
+        tape();
+        dinners();
+        soundTexts();
+        tokenFaults();
+        lineFaults();
+        guestAndFeudFaults();
+        formulaFaults();
+        formulaLimits();
+        formulas();
+        Due.end();
+    }
+
+    private static void newObject() {
+        GravyRound x = new GravyRound();
+        int[] want = {0, 0, 0, 0, -1, 0, 0, 0, 0, 0, 0, 0, 0, 0, 0, 3, 0};
+        for (int i = 0; i < want.length; i++) {
+            Due.is(1, "new, about(" + i + ")", x.about(i), want[i]);
+        }
+        Due.is(1, "new, minute()", x.minute(), -2);
+        Due.is(1, "new, round()", x.round(), 0);
+        Due.is(5, "new, fault(0)", x.fault(0), 0);
+        Due.is(5, "new, fault(1)", x.fault(1), -1);
+        Due.is(5, "new, fault(2)", x.fault(2), -1);
+        Due.is(5, "new, fault(-1)", x.fault(-1), -1);
+        Due.is(48, "new, back(0)", x.back(0), -1);
+    }
+
+    private static void tape() {
+        GravyRound x = new GravyRound();
+        // "boat 42;" and blanks: b is 98, o 111, a 97, t 116
+        int first = 98 << 24 | 111 << 16 | 97 << 8 | 116;
+        int second = 32 << 24 | 52 << 16 | 50 << 8 | 59;
+        int blank = 0x20202020;
+        Due.is(2, "feed", x.feed(first, second, blank, blank, blank), 20);
+        Due.is(2, "about(12)", x.about(12), 20);
+        Due.is(4, "dinner()", x.dinner(), 0);
+        Due.is(2, "about(2)", x.about(2), 42);
+        Due.is(4, "the tape is empty then", x.about(12), 0);
+        for (int i = 1; i <= 80; i++) {
+            Due.is(2, "feed number " + i, x.feed(blank, blank, blank, blank, blank), 20 * i);
+        }
+        Due.is(2, "feed beyond 1600", x.feed(blank, blank, blank, blank, blank), -1);
+        Due.is(2, "nothing comes then", x.about(12), 1600);
+        Due.is(3, "end(1601)", x.end(1601), -1);
+        Due.is(3, "end(-1)", x.end(-1), -1);
+        Due.is(3, "nothing is done then", x.about(12), 1600);
+        Due.is(3, "end(1581)", x.end(1581), 1581);
+        Due.is(2, "feed beyond 1600 by one", x.feed(blank, blank, blank, blank, blank), -1);
+        Due.is(3, "end(1580)", x.end(1580), 1580);
+        Due.is(2, "feed up to 1600", x.feed(blank, blank, blank, blank, blank), 1600);
+        Due.is(3, "end(1600)", x.end(1600), 1600);
+        Due.is(3, "end(0)", x.end(0), 0);
+        Due.is(3, "end(0) again", x.end(0), 0);
+        Due.is(3, "end(1) of none", x.end(1), -1);
+    }
+
+    private static void dinners() {
+        GravyRound x = Due.dine(AB + "feud a b;boat 9;heat 50;leans 100;draw 5;across 4;cools 1+1;");
+        x.later(7);
+        x.seen(0, 0, true);
+        x.minute();
+        x.tables();
+        x.image(1);
+        Due.put(x, "boat 3;guest");
+        Due.is(4, "dinner() with a fault", x.dinner(), -1);
+        Due.is(5, "fault(0)", x.fault(0), 2);
+        Due.is(5, "fault(1)", x.fault(1), 12);
+        Due.is(4, "all stays: guests", x.about(0), 2);
+        Due.is(4, "all stays: the boat", x.about(2), 7);
+        Due.is(4, "all stays: the minute", x.about(6), 1);
+        Due.is(4, "all stays: acts", x.about(8), 1);
+        Due.is(4, "all stays: what is seen", x.about(10), 1);
+        Due.is(4, "all stays: the tape", x.about(12), 12);
+        Due.is(4, "all stays: units", x.about(13), 2);
+        Due.is(4, "all stays: what lies there", x.about(14), 2);
+        Due.is(3, "the faulty end is cut off", x.end(7), 7);
+        Due.is(4, "dinner() without it", x.dinner(), 0);
+        int[] want = {0, 0, 3, 0, -1, 0, 0, 0, 0, 0, 0, 7, 0, 0, 0, 3, 0};
+        for (int i = 0; i < want.length; i++) {
+            Due.is(4, "a new dinner, about(" + i + ")", x.about(i), want[i]);
+        }
+        Due.is(5, "fault(0) of a sound one", x.fault(0), 0);
+        Due.is(5, "fault(1) of a sound one", x.fault(1), -1);
+        Due.is(4, "boxes are empty", x.back(1), -1);
+        Due.is(4, "no acts are kept", x.undo(), false);
+        Due.is(4, "the empty tape is a dinner", x.dinner(), 0);
+        Due.is(4, "and all is as told by it", x.about(2), 0);
+    }
+
+    /** A text without a fault. */
+    private static void sound(String text, int guests) {
+        GravyRound x = new GravyRound();
+        Due.put(x, text);
+        Due.is(4, "dinner() of [" + text + "]", x.dinner(), guests);
+        Due.is(5, "fault(0) of [" + text + "]", x.fault(0), 0);
+        Due.is(5, "fault(1) of [" + text + "]", x.fault(1), -1);
+    }
+
+    private static void faulty(String text, int kind, int place) {
+        GravyRound x = new GravyRound();
+        Due.put(x, text);
+        Due.is(4, "dinner() of [" + text + "]", x.dinner(), -1);
+        Due.is(5, "fault(0) of [" + text + "]", x.fault(0), kind);
+        Due.is(5, "fault(1) of [" + text + "]", x.fault(1), place);
+    }
+
+    /** A fault at the place of the mark, which is taken out. */
+    private static void faultyAt(String text, int kind) {
+        int place = text.indexOf('!');
+        faulty(text.substring(0, place) + text.substring(place + 1), kind, place);
+    }
+
+    private static void soundTexts() {
+        sound("", 0);
+        sound(" \n  ", 0);
+        sound("boat 0;heat 0;across 0;leans 0;draw 0;", 0);
+        sound("boat 99;heat 99;across 9;leans 100;draw 999;cools 9999;", 0);
+        sound("boat5;heat 0007 ;across\n3;", 0);
+        sound("guest abcdefgh takes 0 slow 1;guest z takes 20 slow 9;feud z abcdefgh;", 2);
+        sound("guest\na\ntakes\n1\nslow\n1\n;\n", 1);
+    }
+
+    private static void tokenFaults() {
+        faultyAt("!@", 1);
+        faultyAt("  !A", 1);
+        faultyAt("boat 5;!\t", 1);
+        faultyAt("boat 5;!" + (char) 233, 1);
+        faultyAt("boat 5;!" + (char) 0, 1);
+        faultyAt("boat !12345;", 1);
+        faultyAt("boat !00001;", 1);
+        faultyAt("boat !5a;", 1);
+        faultyAt("boat 5!,", 1);
+        faultyAt("guest !abcdefghi takes 1 slow 1;", 1);
+        faultyAt("guest a takes !1slow 1;", 1);
+        faultyAt("cools !1or 1;", 1);
+        faultyAt("cools 1 !_ 1;", 1);
+        // the first by its place
+        faultyAt("boat !100;@", 4);
+        faultyAt("boat !;@", 2);
+    }
+
+    private static void lineFaults() {
+        faultyAt("boat 5!", 2);
+        faultyAt("boat 5 \n !", 2);
+        faultyAt("boat!", 2);
+        faultyAt("boat !;", 2);
+        faultyAt("boat !boat 5;", 2);
+        faultyAt("boat 5 !5;", 2);
+        faultyAt("!;", 2);
+        faultyAt("boat 5;!;", 2);
+        faultyAt("!5;", 2);
+        faultyAt("!lady 5;", 2);
+        faultyAt("!guests 5;", 2);
+        faultyAt("!minute 5;", 2);
+        faultyAt("boat !100;", 4);
+        faultyAt("heat !100;", 4);
+        faultyAt("across !10;", 4);
+        faultyAt("leans !101;", 4);
+        faultyAt("draw !1000;", 4);
+        for (String word : new String[] {"boat", "heat", "across", "leans", "draw", "cools"}) {
+            faultyAt(word + " 1;!" + word + " 1;", 2);
+        }
+        faultyAt(A + "boat 1;heat 1;!boat 100;", 2);
+    }
+
+    private static void guestAndFeudFaults() {
+        for (String word : OWN_WORDS) {
+            faultyAt("guest !" + word + " takes 1 slow 1;", 2);
+            faultyAt(A + "feud !" + word + " a;", 2);
+            faultyAt(A + "feud a !" + word + ";", 2);
+        }
+        faultyAt("guest !5 takes 1 slow 1;", 2);
+        faultyAt("guest a !slow 1;", 2);
+        faultyAt("guest a takes !slow 1;", 2);
+        faultyAt("guest a takes 1 !;", 2);
+        faultyAt("guest a takes 1 slow 1!", 2);
+        faultyAt("guest a takes !21 slow 1;", 4);
+        faultyAt("guest a takes 1 slow !0;", 4);
+        faultyAt("guest a takes 1 slow !10;", 4);
+        faultyAt(A + "guest !a takes 1 slow 1;", 3);
+        faultyAt(A + "feud a !a;", 3);
+        faultyAt(AB + "feud a b;feud a !b;", 3);
+        faultyAt(AB + "feud a b;feud b !a;", 3);
+        faultyAt("feud !a b;" + AB, 5);
+        faultyAt(A + "feud a !b;" + "guest b takes 1 slow 1;", 5);
+        faultyAt(A + "feud !b a;", 5);
+        faultyAt(AB + "feud a b!", 2);
+        String seven = "";
+        for (char c = 'a'; c <= 'g'; c++) {
+            seven += "guest " + c + " takes 1 slow 1;";
+        }
+        sound(seven, 7);
+        faultyAt(seven + "!guest h takes 1 slow 1;", 2);
+        String ten = seven + "feud a b;feud a c;feud a d;feud a e;feud a f;feud a g;feud b c;feud b d;feud b e;feud b f;";
+        sound(ten, 7);
+        faultyAt(ten + "!feud b g;", 2);
+        faultyAt(ten + "!feud a b;", 2);
+        GravyRound x = Due.dine(ten);
+        Due.is(49, "about(1)", x.about(1), 10);
+        Due.is(8, "feud(9, 1)", x.feud(9, 1), 5);
+    }
+
+    private static void formulaFaults() {
+        faultyAt("cools !;", 2);
+        faultyAt("cools 1 !2;", 2);
+        faultyAt("cools 1+!;", 2);
+        faultyAt("cools !-1;", 2);
+        faultyAt("cools 1<2!<3;", 2);
+        faultyAt("cools 1<!not 2;", 2);
+        faultyAt("cools 1+!not 2;", 2);
+        faultyAt("cools (1!;", 2);
+        faultyAt("cools 1!);", 2);
+        faultyAt("cools (!);", 2);
+        faultyAt("cools not !;", 2);
+        faultyAt("cools 1 and !;", 2);
+        faultyAt("cools 1 or !or 1;", 2);
+        faultyAt("cools !boat;", 2);
+        faultyAt("cools !lady;", 2);
+        faultyAt("cools 1!", 2);
+    }
+
+    private static void formulaLimits() {
+        String thirty = "1" + "+1".repeat(29);
+        sound("cools " + thirty + ";", 0);
+        Due.is(49, "units", Due.dine("cools " + thirty + ";").about(13), 30);
+        Due.is(49, "units", Due.dine("cools (1)+((heat));").about(13), 5);
+        faultyAt("cools " + thirty + "+!1;", 2);
+        faultyAt("cools " + thirty + "+!(1);", 2);
+        // the brackets are a unit too
+        faultyAt("cools (" + "1+".repeat(29) + "!1);", 2);
+        sound("cools (" + "1+".repeat(28) + "1);", 0);
+        sound("cools " + "(".repeat(7) + "1" + ")".repeat(7) + ";", 0);
+        faultyAt("cools " + "(".repeat(7) + "!(1" + ")".repeat(8) + ";", 2);
+        sound("cools " + "not ".repeat(7) + "1;", 0);
+        faultyAt("cools " + "not ".repeat(7) + "!not 1;", 2);
+        sound("cools " + "not(".repeat(3) + "not 1" + ")".repeat(3) + ";", 0);
+        // seven others are: three nots, three brackets, one not; the bracket behind them is within all of these
+        faultyAt("cools " + "not(".repeat(3) + "not !(1)" + ")".repeat(3) + ";", 2);
+        faultyAt("cools " + "(not ".repeat(3) + "(!not 1)" + ")".repeat(3) + ";", 2);
+        // what is within no other again may go as deep again
+        sound("cools " + "((((((1))))))+((((((1))))));", 0);
+    }
+
+    /** How much the heat of 99 is less behind one minute. */
+    private static void cools(String formula, int less) {
+        GravyRound x = Due.dine("guest a takes 3 slow 9;guest b takes 0 slow 1;boat 40;heat 99;cools " + formula + ";");
+        x.minute();
+        Due.is(9, "what comes of " + formula, 99 - x.about(3), less);
+    }
+
+    private static void formulas() {
+        cools("2+3*4", 14);
+        cools("20-3-4", 13);
+        cools("40/4/5", 2);
+        cools("40/4*5", 50);
+        cools("17%5", 2);
+        cools("7/0", 0);
+        cools("9+7/0", 9);
+        cools("9+7%0", 9);
+        cools("0-7", 0);
+        cools("10+(0-7)/2", 7);
+        cools("10+(0-7)%4", 7);
+        cools("1000", 99);
+        cools("9999*9999*22", 0);
+        cools("9999*9999*43", 99);
+        cools("(2+3)*4", 20);
+        cools("1<2", 1);
+        cools("2<2", 0);
+        cools("2>1", 1);
+        cools("2>2", 0);
+        cools("2=2", 1);
+        cools("2=3", 0);
+        cools("1+1<3", 1);
+        cools("not 0", 1);
+        cools("not 5", 0);
+        cools("not not 5", 1);
+        cools("not 1<0", 1);
+        cools("not 0 and 0", 0);
+        cools("5 and 3", 1);
+        cools("5 and 0", 0);
+        cools("5 or 3", 1);
+        cools("0 or 0", 0);
+        cools("1 or 0 and 0", 1);
+        cools("(1 or 0) and 0", 0);
+        cools("(0-1) and 1", 1);
+        cools("heat/2", 49);
+        cools("left", 40);
+        cools("minute+1", 1);
+        cools("seat+2", 2);
+        cools("guests*3", 6);
+        cools("(heat>90)*7+(left=40)*11", 18);
+    }
+}
