@@ -27,7 +27,7 @@ public final class GravyRound {
     private int faultPlace = NONE;
     private final Dinner told = new Dinner();
     private final Dinner draft = new Dinner();
-    private final Reader reader = new Reader(tape);
+    private final Reader reader = new Reader(tape, draft);
     private final Table live = new Table(told);
     private final Table trial = new Table(told);
     private final Acts acts = new Acts(told);
@@ -71,7 +71,7 @@ public final class GravyRound {
 
     /** Makes the tape the dinner; how many guests, or NONE if it has a fault. */
     public int dinner() {
-        boolean sound = reader.read(tapeLength, draft);
+        boolean sound = reader.read(tapeLength);
         faultKind = reader.faultKind;
         faultPlace = reader.faultPlace;
         if (!sound) {
@@ -967,17 +967,17 @@ public final class GravyRound {
         private static final int DEEPEST = 6;
 
         private final Tokens tokens;
-        private Dinner into;
+        private final Dinner into;
         private int toldOnce;
         int faultKind;
         int faultPlace;
 
-        Reader(byte[] tape) {
+        Reader(byte[] tape, Dinner draft) {
             tokens = new Tokens(tape);
+            into = draft;
         }
 
-        boolean read(int length, Dinner draft) {
-            into = draft;
+        boolean read(int length) {
             into.clear();
             toldOnce = 0;
             faultKind = 0;
@@ -1503,6 +1503,8 @@ public final class GravyRound {
 
     /** Looks through the orders of those behind, the first ones first. */
     private static final class Orders {
+        private static final int BEYOND_ALL = 1000000;
+
         private final Dinner told;
         private final int[] foes = new int[MOST_GUESTS];
         private final int[] order = new int[MOST_GUESTS];
@@ -1523,7 +1525,7 @@ public final class GravyRound {
         int findCheapest(Table table, int each) {
             look(table);
             price = each;
-            bestYet = Integer.MAX_VALUE;
+            bestYet = BEYOND_ALL;
             layCheap(this, 0, table.who[table.stand], free, 0);
             return bestYet;
         }

@@ -75,6 +75,12 @@ final class AdviceTest {
         like.change(1, 3);
         Due.is(21, "warmest() of like ones", like.warmest(), 0);
         Due.lies(21, "warmest() of like ones", like, 1, 2, 3);
+        // it cools by the seat in the minutes 0 to 3 alone
+        GravyRound early = Due.dine(guests(1, 2, 3) + "heat 50;cools (minute < 4) * seat;");
+        Due.is(21, "warmest() by the minute", early.warmest(), 50 - 3);
+        Due.lies(21, "warmest() by the minute", early, 2, 1);
+        early.minute();
+        Due.is(21, "warmest() a minute later, b being where it stands", early.warmest(), 50 - 1 - 1 - 2);
         // who takes much must have it first, if what is left makes it cool
         GravyRound z = Due.dine("guest a takes 0 slow 1;guest b takes 1 slow 1;guest c takes 9 slow 1;guest d takes 2 slow 1;"
             + "boat 12;heat 90;cools left;");
@@ -315,6 +321,8 @@ final class AdviceTest {
         x.pour(20);
         Due.is(35, "lacking(): too late", x.lacking(), 4);
         Due.is(36, "hungry() when over", x.hungry(), 4);
+        Due.is(36, "hungry(), asked for first", Due.dine("guest a takes 3 slow 1;boat 2;").hungry(), 1);
+        Due.is(35, "lacking() of the first one", Due.dine("guest a takes 3 slow 1;boat 2;").lacking(), 1);
         GravyRound y = Due.dine(GREEDY);
         Due.is(35, "lacking()", y.lacking(), 11);
         Due.is(36, "hungry()", y.hungry(), 6);

@@ -82,6 +82,12 @@ final class MealTest {
             y.minute();
             Due.is(9, "heat by 1 + heat / 20", y.about(3), heat[m]);
         }
+        int[][] edges = {{19, 18}, {20, 18}, {39, 37}, {40, 37}, {60, 56}, {80, 75}, {1, 0}, {0, 0}};
+        for (int[] edge : edges) {
+            GravyRound one = Due.dine("guest a takes 1 slow 9;heat " + edge[0] + ";");
+            one.minute();
+            Due.is(9, "heat of " + edge[0] + " a minute later", one.about(3), edge[1]);
+        }
         GravyRound z = Due.dine("guest a takes 1 slow 2;heat 3;cools 2;");
         Due.minutes(z, 2);
         Due.is(9, "heat 0 at least", z.about(3), 0);
@@ -105,6 +111,9 @@ final class MealTest {
             }
             Due.is(19, "will(2, 0, 0) when he has it", x.will(2, 0, 0), want[2]);
         }
+        GravyRound drop = Due.dine("guest a takes 2 slow 1;boat 3;leans 100;");
+        drop.minute();
+        Due.is(9, "the last drop is spilt", drop.about(2), 0);
         GravyRound slow = Due.dine("guest a takes 2 slow 3;boat 9;leans 100;draw 5;");
         slow.minute();
         Due.is(9, "nothing is spilt where nobody is served", slow.about(2), 9);

@@ -92,6 +92,20 @@ final class TextTest {
         Due.is(5, "fault(1) of a sound one", x.fault(1), -1);
         Due.is(4, "boxes are empty", x.back(1), -1);
         Due.is(4, "no acts are kept", x.undo(), false);
+        Due.put(x, AB + "feud a b;heat 9;boat 5;");
+        x.dinner();
+        Due.minutes(x, 5);
+        x.makeUp(0);
+        Due.put(x, AB + "feud a b;");
+        Due.is(4, "dinner() once more", x.dinner(), 2);
+        for (int g = 0; g < 2; g++) {
+            for (int what = 3; what <= 5; what++) {
+                Due.is(4, "nobody is served yet, guest(" + g + ", " + what + ")", x.guest(g, what), 0);
+            }
+        }
+        Due.is(4, "no feud is ended", x.feud(0, 2), 0);
+        Due.is(4, "it cools as ever", x.about(13), 0);
+        x.end(0);
         Due.is(4, "the empty tape is a dinner", x.dinner(), 0);
         Due.is(4, "and all is as told by it", x.about(2), 0);
     }
