@@ -8,6 +8,7 @@ final class TextTest {
     public static void main(String[] args) {
         newObject();
         tape();
+        cutTape();
         dinners();
         soundTexts();
         tokenFaults();
@@ -61,6 +62,35 @@ final class TextTest {
         Due.is(3, "end(0)", x.end(0), 0);
         Due.is(3, "end(0) again", x.end(0), 0);
         Due.is(3, "end(1) of none", x.end(1), -1);
+    }
+
+    /** What end() cut off still stands in the room behind the tape: it may not be read. */
+    private static void cutTape() {
+        Object[][] cuts = {{"boat 00051", 9, 9}, {"guest abcdefghi", 14, 14}, {"boat 5a", 6, 6}, {"boat 5;", 6, 6}};
+        for (Object[] cut : cuts) {
+            GravyRound x = new GravyRound();
+            Due.put(x, (String) cut[0]);
+            x.end((int) cut[1]);
+            Due.is(3, "dinner() of [" + cut[0] + "], cut", x.dinner(), -1);
+            Due.is(3, "fault(0) of [" + cut[0] + "], cut", x.fault(0), 2);
+            Due.is(3, "fault(1) of [" + cut[0] + "], cut", x.fault(1), (int) cut[2]);
+        }
+        GravyRound y = new GravyRound();
+        Due.put(y, "boat 57;heat 9;");
+        y.end(6);
+        Due.put(y, ";");
+        Due.is(3, "dinner() of what comes behind the cut", y.dinner(), 0);
+        Due.is(3, "the boat", y.about(2), 5);
+        Due.is(3, "the heat", y.about(3), 0);
+        // a full tape whose last token ends with it
+        GravyRound full = new GravyRound();
+        Due.put(full, " ".repeat(1596) + "boat");
+        Due.is(4, "dinner() of 1,600 bytes, a word last", full.dinner(), -1);
+        Due.is(5, "fault(1)", full.fault(1), 1600);
+        GravyRound number = new GravyRound();
+        Due.put(number, " ".repeat(1594) + "boat 5");
+        Due.is(4, "dinner() of 1,600 bytes, a number last", number.dinner(), -1);
+        Due.is(5, "fault(1)", number.fault(1), 1600);
     }
 
     private static void dinners() {
@@ -237,6 +267,11 @@ final class TextTest {
         faultyAt("cools not !;", 2);
         faultyAt("cools 1 and !;", 2);
         faultyAt("cools 1 or !or 1;", 2);
+        // what is missing directly ahead of the line's end
+        for (String sign : new String[] {"or", "and", "<", ">", "=", "+", "-", "*", "/", "%"}) {
+            faultyAt("cools 1 " + sign + " !;", 2);
+            faultyAt("cools (1 " + sign + " !);", 2);
+        }
         faultyAt("cools !boat;", 2);
         faultyAt("cools !lady;", 2);
         faultyAt("cools 1!", 2);
