@@ -59,6 +59,14 @@ final class Due {
         }
     }
 
+    static int wrongSoFar() {
+        return wrong;
+    }
+
+    static int askedSoFar() {
+        return asked;
+    }
+
     static void end() {
         System.out.println(wrong == 0 ? asked + " answers are as due" : wrong + " of " + asked + " answers are not as due");
         if (wrong != 0) {
