@@ -165,6 +165,25 @@ final class AdviceEdgeTest {
         Due.lies(21, "warmest() at the last seat", last, 1, 2, 3);
     }
 
+    @Says("(By what is now")
+    private static void warmestByTheMinute() {
+        // it cools by the seat in the minutes 0 to 3 alone: c for 3 minutes ahead of b, or b for 2 ahead of c
+        GravyRound x = Due.dine(Edges.guests(1, 2, 3) + "heat 50;cools (minute < 4) * seat;");
+        Due.is(21, "warmest() in minute 0", x.warmest(), 50 - 3);
+        Due.lies(21, "warmest() in minute 0", x, 2, 1);
+        x.minute();
+        Due.is(21, "warmest() in minute 1, b being where it stands", x.warmest(), 50 - 2 - 2);
+        Due.lies(21, "warmest() in minute 1", x, 2);
+        x.minute();
+        Due.is(21, "warmest() in minute 2", x.warmest(), 50 - 2 - 2);
+        x.minute();
+        Due.is(21, "warmest() in minute 3", x.warmest(), 50 - 2 - 2);
+        x.minute();
+        Due.is(21, "warmest() in minute 4", x.warmest(), 50 - 2 - 2);
+        x.warm(7);
+        Due.is(21, "warmest() when warmed", x.warmest(), 53);
+    }
+
     @Says(promise = 21, value = "WARMEST: how WARM (the HEAT that there is, if it is OVER). Those who are BEHIND lie there then, in order.")
     private static void warmestEdges() {
         GravyRound x = Due.dine(THREE);
@@ -262,6 +281,12 @@ final class AdviceEdgeTest {
         Due.is(23, "treaty(5, 1): by none", x.treaty(5, 1), -1);
         Due.is(23, "treaty(0, 0) when over", over(THREE).treaty(0, 0), 0);
         Due.is(23, "treaty(0, 1) without guests", new GravyRound().treaty(0, 1), 0);
+        GravyRound ten = Due.dine(ALL_FEUDS);
+        Due.is(23, "treaty(5, 0) of ten", ten.treaty(5, 0), 4);
+        Due.is(23, "treaty(4, 0) of ten: by none", ten.treaty(4, 0), -1);
+        Due.put(ten, Edges.guests(1, 1, 1, 1, 1));
+        ten.dinner();
+        Due.is(23, "treaty(4, 0), the feuds of another dinner: by none", ten.treaty(4, 0), -1);
         GravyRound idle = Due.dine(Edges.guests(1, 1) + "feud a b;across 0;");
         Due.is(23, "treaty(2, 0), across 0", idle.treaty(2, 0), 0);
         Due.is(23, "treaty(1, 0), across 0", idle.treaty(1, 0), -1);
@@ -427,6 +452,7 @@ final class AdviceEdgeTest {
         Due.is(28, "nothing cools by that", x.about(3), 17);
         // without guests the seat is 0, and the minute goes up all the same
         Due.is(28, "skin(50), the seat being 0", Due.dine("heat 50;cools seat;").skin(50), -1);
+        Due.is(28, "skin(50), the seat being 0 and no less", Due.dine("heat 50;cools 1 + seat;").skin(50), 1);
         Due.is(28, "skin(50), guests being 0", Due.dine("heat 50;cools guests;").skin(50), -1);
         Due.is(28, "skin(50), by the minute", Due.dine("heat 50;cools minute;").skin(50), 2);
         // one guest: the last seat is 0

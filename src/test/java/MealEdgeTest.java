@@ -143,6 +143,18 @@ final class MealEdgeTest {
         cools("0", 0);
     }
 
+    @Says("by heat")
+    private static void heatInCools() {
+        cools("heat", 99);
+        cools("heat - 60", 39);
+        GravyRound x = Due.dine(Edges.guests(9) + "heat 65;cools heat / 2;");
+        int[] heat = {33, 17, 9, 5, 3, 2, 1, 1};
+        for (int m = 0; m < 8; m++) {
+            x.minute();
+            Due.is(9, "by the heat ahead of cooling", x.about(3), heat[m]);
+        }
+    }
+
     @Says("left (what is in the BOAT)")
     private static void left() {
         GravyRound x = Due.dine(Edges.takers(7, 2, 1) + "boat 9;heat 90;cools left;");

@@ -339,6 +339,11 @@ final class TextEdgeTest {
             "cools not !or 1;", "cools 1+!not 1;", "cools 1<!not 1;", "cools !slow;", "cools !a;"}) {
             Edges.faultyAt(text, 2);
         }
+        // a unit that is missing, where else the line could end
+        for (String sign : new String[] {"or", "and", "or not", "and not", "<", ">", "=", "+", "-", "*", "/", "%"}) {
+            Edges.faultyAt("cools 1 " + sign + " !;", 2);
+            Edges.faultyAt("cools (1 " + sign + " !);", 2);
+        }
     }
 
     @Says("(one of a sort too many or a second time: at the line's first word")
@@ -560,6 +565,41 @@ final class TextEdgeTest {
         Due.is(4, "fits(7)", x.fits(7), 20);
         Due.is(4, "lies(0)", x.lies(0), -2);
         Due.is(4, "seen() is numbered from 0", x.seen(0, 0, true), 0);
+    }
+
+    /** How much of a heat of 60 goes in a minute, by a dinner told on an object that was used before. */
+    private static void coolsThen(GravyRound x, String told, int less) {
+        Due.put(x, Edges.guests(9) + "heat 60;" + told);
+        Due.is(4, "dinner() with [" + told + "]", x.dinner(), 1);
+        x.minute();
+        Due.is(4, "it cools by [" + told + "]", 60 - x.about(3), less);
+    }
+
+    @Says(promise = 4, value = "(all as told")
+    private static void nothingOfTheOneBefore() {
+        GravyRound x = Due.dine(TEN + "boat 9;heat 9;across 9;leans 9;draw 9;cools not 1 < 2 or not 9 * (heat - left);");
+        coolsThen(x, "", 4);
+        Due.is(4, "no feuds", x.about(1), 0);
+        Due.is(4, "no units", x.about(13), 0);
+        Due.is(4, "across", x.about(15), 3);
+        Due.is(4, "leans", x.about(16), 0);
+        Due.is(4, "the seed", x.about(7), 0);
+        coolsThen(x, "cools not 7;", 0);
+        coolsThen(x, "cools 5;", 5);
+        Due.is(4, "one unit", x.about(13), 1);
+        coolsThen(x, "", 4);
+        // nor of one that had a fault in the midst of all
+        Due.put(x, TEN + "boat 9;heat 9;across 9;leans 9;draw 9;cools 50 + not");
+        Due.is(4, "dinner() with a fault", x.dinner(), -1);
+        x.end(0);
+        coolsThen(x, "", 4);
+        Due.is(4, "no feuds", x.about(1), 0);
+        Due.is(4, "no units", x.about(13), 0);
+        Due.put(x, "guest g takes 1 slow 1;guest a takes 1 slow 1;feud g a;");
+        Due.is(4, "names and feuds may be told anew", x.dinner(), 2);
+        Due.put(x, "guest a takes 1 slow 1;feud a g;");
+        Due.is(4, "who is not there any more can have no feud", x.dinner(), -1);
+        Due.is(5, "fault(0)", x.fault(0), 5);
     }
 
     @Says(promise = 4, value = "NONE: a FAULT (all stays)")
