@@ -269,6 +269,11 @@ final class MealEdgeTest {
         cools("(2<3)*40", 40);
         cools("(7 or 0)*40", 40);
         cools("(7 and 9)*40", 40);
+        // as many as can be: seven nots ahead of each of thirty units, and all that can wait for another
+        cools(("not ".repeat(7) + "1 or ").repeat(29) + "not ".repeat(7) + "0", 1);
+        cools(("not ".repeat(7) + "1 or ").repeat(29) + "not ".repeat(7) + "1", 0);
+        cools("0 or 1 and 1<1+1*(".repeat(4) + "0 or 1 and 1<1+1*1" + ")".repeat(4), 1);
+        cools("0 or 1 and 1<1+1*(".repeat(4) + "0 or 1 and 1<1+1*0" + ")".repeat(4), 0);
         // not takes what stands up to and, with its relation
         cools("not 1<0", 1);
         cools("not 0 and 0", 0);
@@ -430,23 +435,29 @@ final class MealEdgeTest {
     @Says("UNDO takes back the latest ACT that was not, REDO does that again which was taken back last (till another ACT)")
     private static void undoAndRedo() {
         GravyRound x = Due.dine(THREE + "leans 100;");
-        String[] then = new String[7];
-        then[0] = Edges.all(x);
-        for (int act = 1; act <= 6; act++) {
+        String[] then = new String[8];
+        then[0] = state(x);
+        for (int act = 1; act <= 7; act++) {
             switch (act) {
-                case 1: x.change(1, 2); break;
-                case 2: x.makeUp(1); break;
-                case 3: x.fallOut(1); break;
-                case 4: x.pour(5); break;
-                case 5: x.warm(7); break;
-                default: Due.minutes(x, 1); break;
+                case 2: x.change(1, 2); break;
+                case 3: x.makeUp(1); break;
+                case 4: x.fallOut(1); break;
+                case 5: x.pour(5); break;
+                case 6: x.warm(7); break;
+                // nobody is served in the first, a in the last, and one is spilt
+                default: x.minute(); break;
             }
-            then[act] = Edges.all(x);
+            then[act] = state(x);
+            Due.is(15, "act " + act + " makes it otherwise (1: yes)", then[act].equals(then[act - 1]) ? 0 : 1, 1);
         }
-        for (int act = 5; act >= 0; act--) {
+        for (int act = 6; act >= 0; act--) {
             Due.is(15, "undo()", x.undo(), true);
-            Due.is(15, "as behind act " + act + " (1: yes)", seen(x).equals(seen(then[act])) ? 1 : 0, 1);
-            Due.is(49, "about(9)", x.about(9), 6 - act);
+            Due.is(15, "as behind act " + act + " (1: yes)", state(x).equals(then[act]) ? 1 : 0, 1);
+            Due.is(49, "about(9)", x.about(9), 7 - act);
+        }
+        for (int act = 1; act <= 7; act++) {
+            Due.is(16, "redo()", x.redo(), true);
+            Due.is(16, "as behind act " + act + " (1: yes)", state(x).equals(then[act]) ? 1 : 0, 1);
         }
         GravyRound y = Due.dine(THREE);
         y.pour(1);
@@ -466,14 +477,17 @@ final class MealEdgeTest {
         Due.is(15, "not what was poured in", y.about(2), 11);
     }
 
-    /** What of all() is the state, without how many acts can be undone and redone. */
-    private static String seen(String all) {
-        String[] parts = all.split(",", 11);
-        return String.join(",", java.util.Arrays.copyOf(parts, 8)) + "," + parts[10];
-    }
-
-    private static String seen(GravyRound x) {
-        return seen(Edges.all(x));
+    /** What acts can make otherwise, of three guests and two feuds. */
+    private static String state(GravyRound x) {
+        StringBuilder b = new StringBuilder();
+        for (int i = 2; i <= 7; i++) {
+            b.append(x.about(i)).append(",");
+        }
+        for (int g = 0; g < 3; g++) {
+            b.append(x.seat(g)).append(",").append(x.guest(g, 3)).append(",").append(x.guest(g, 4)).append(",").append(x.guest(g, 5))
+                .append(";");
+        }
+        return b.append(x.feud(0, 2)).append(x.feud(1, 2)).toString();
     }
 
     @Says("(till another ACT)")

@@ -5,8 +5,12 @@ import java.util.Random;
 
 /** Long runs of calls, drawn from fixed seeds, on GravyRound and on the plain model: each answer must be the same. */
 final class ModelTest {
-    private static final int RUNS = 400;
+    private static final int RUNS = 4000;
+    /** The document promises nothing of an object behind its 512th call. */
+    private static final int MOST_CALLS = 512;
+    private static final int LAST_LOOK = 130;
     private static int wrong = 0;
+    private static int calls = 0;
     private static final List<Method> FACE = new ArrayList<>();
     private static final List<Method> MODEL = new ArrayList<>();
 
@@ -32,16 +36,16 @@ final class ModelTest {
         }
     }
 
-    /** One object: a few dinners, and calls of every kind between them. */
+    /** One object: a few dinners, calls of every kind between them, a look at something behind each, at all in the end. */
     private static void meals(Random r, int run) throws Exception {
         GravyRound x = new GravyRound();
         PlainModel y = new PlainModel();
-        int calls = 0;
+        calls = 0;
         String text = "";
-        while (calls < 500) {
-            if (calls == 0 ? r.nextInt(8) > 0 : r.nextInt(250) == 0) {
+        while (calls < MOST_CALLS - LAST_LOOK - 3) {
+            if (calls == 0 ? r.nextInt(8) > 0 : calls < 250 && r.nextInt(100) == 0) {
                 text = r.nextInt(6) == 0 ? spoilt(r, text(r)) : text(r);
-                calls += feedAll(x, y, text);
+                feedAll(x, y, text);
                 check(run, text, "dinner", x.dinner(), y.dinner());
                 if (y.faultKind != 0) {
                     check(run, text, "end", x.end(0), y.end(0));
@@ -64,13 +68,36 @@ final class ModelTest {
             Object got = m.invoke(x, with);
             Object want = MODEL.get(i).invoke(y, with);
             check(run, text, m.getName() + List.of(with), got, want);
-            for (int k = 0; k <= 16; k++) {
-                check(run, text, m.getName() + List.of(with) + " then about(" + k + ")", x.about(k), y.about(k));
-            }
-            for (int k = -1; k <= 7; k++) {
+            int k = r.nextInt(17);
+            check(run, text, m.getName() + List.of(with) + " then about(" + k + ")", x.about(k), y.about(k));
+            if (y.lying.size() > 0 && r.nextInt(3) == 0) {
+                k = r.nextInt(8);
                 check(run, text, m.getName() + List.of(with) + " then lies(" + k + ")", x.lies(k), y.lies(k));
             }
-            calls++;
+        }
+        lookAtAll(x, y, run, text);
+        if (calls > MOST_CALLS) {
+            throw new IllegalStateException("run " + run + " has " + calls + " calls");
+        }
+    }
+
+    private static void lookAtAll(GravyRound x, PlainModel y, int run, String text) {
+        for (int k = 0; k <= 16; k++) {
+            check(run, text, "at the end about(" + k + ")", x.about(k), y.about(k));
+        }
+        for (int k = 0; k <= 7; k++) {
+            check(run, text, "at the end lies(" + k + ")", x.lies(k), y.lies(k));
+        }
+        for (int g = 0; g < y.about(0); g++) {
+            for (int what = 0; what <= 6; what++) {
+                check(run, text, "at the end guest(" + g + ", " + what + ")", x.guest(g, what), y.guest(g, what));
+            }
+            check(run, text, "at the end seat(" + g + ")", x.seat(g), y.seat(g));
+        }
+        for (int f = 0; f < y.about(1); f++) {
+            for (int what = 0; what <= 2; what++) {
+                check(run, text, "at the end feud(" + f + ", " + what + ")", x.feud(f, what), y.feud(f, what));
+            }
         }
     }
 
@@ -131,22 +158,20 @@ final class ModelTest {
         check(run, text, "skin", x.skin(20), y.skin(20));
     }
 
-    private static int feedAll(GravyRound x, PlainModel y, String text) {
+    private static void feedAll(GravyRound x, PlainModel y, String text) {
         int[] v = new int[5];
-        int calls = 1;
         int had = y.tape.length();
         for (int i = 0; i < text.length(); i += 20) {
             for (int j = 0; j < 20; j++) {
                 v[j / 4] = v[j / 4] << 8 | (i + j < text.length() ? text.charAt(i + j) : ' ');
             }
             check(0, text, "feed", x.feed(v[0], v[1], v[2], v[3], v[4]), y.feed(v[0], v[1], v[2], v[3], v[4]));
-            calls++;
         }
         check(0, text, "end", x.end(had + text.length()), y.end(had + text.length()));
-        return calls;
     }
 
     private static void check(int run, String text, String call, Object got, Object want) {
+        calls++;
         if (!got.equals(want)) {
             wrong++;
             if (wrong < 20) {

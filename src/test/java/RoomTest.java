@@ -14,7 +14,7 @@ final class RoomTest {
 
     private static int dearest(GravyRound x) {
         int sum = 0;
-        for (int i = 0; i < 20; i++) {
+        for (int i = 0; i < 19; i++) {
             sum += x.warmest() + x.soonest() + x.peace() + x.greed(0, 1) + x.ask(0, i) + x.skin(1) + x.tables();
             sum += x.leave(1) + x.will(6, 0, 1) + x.limit() + x.best(3, 0) + x.treaty(50, 1) + x.clans();
             sum += x.minute() + x.pour(1) + x.warm(1) + x.makeUp(i) + (x.undo() ? 1 : 0) + (x.redo() ? 1 : 0);

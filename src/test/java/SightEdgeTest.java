@@ -176,6 +176,14 @@ final class SightEdgeTest {
         GravyRound seven = Due.dine(Edges.guests(1, 3, 3, 3, 3, 3, 3));
         Due.is(46, "ask(0, 0) of seven", seven.ask(0, 0), 17);
         Due.is(46, "ask(1, 0) of seven", seven.ask(1, 0), 3);
+        // behind 40 there are four at each of the last five seats; a minute less, and five are at one of them
+        GravyRound late = Due.dine(Edges.guests(1, 9, 6, 4, 4, 4, 4) + "feud a b;across 9;");
+        Due.is(46, "ask(0, 0), as late as can be", late.ask(0, 0), 40);
+        Due.is(46, "ask(1, 0), as late as can be", late.ask(1, 0), 4);
+        // the same would be so behind 41
+        GravyRound tooLate = Due.dine(Edges.guests(1, 9, 7, 4, 4, 4, 4) + "feud a b;across 9;");
+        Due.is(46, "ask(0, 0), later than can be", tooLate.ask(0, 0), 40);
+        Due.is(46, "ask(1, 0), later than can be", tooLate.ask(1, 0), 5);
         // one left: nothing is to be asked for
         one.seen(1, 0, false);
         Due.is(46, "ask(0, 0) of one left", one.ask(0, 0), 0);

@@ -265,6 +265,8 @@ final class TextEdgeTest {
         Edges.faultyAt("cools " + thirty + " < !(1);", 2);
         Due.is(49, "30 units, one of them the brackets", Edges.sound("cools (" + "1*".repeat(28) + "1);", 0).about(13), 30);
         Edges.faultyAt("cools (" + "1*".repeat(29) + "!1);", 2);
+        Due.is(49, "thirty units with all that can wait for another", Edges.sound("cools " + "0 or 1 and 1<1+1*(".repeat(4)
+            + "0 or 1 and 1<1+1*1" + ")".repeat(4) + ";", 0).about(13), 30);
         Due.is(49, "no unit", Edges.sound("heat 5;", 0).about(13), 0);
         Due.is(49, "one unit", Edges.sound("cools heat;", 0).about(13), 1);
     }
@@ -280,6 +282,7 @@ final class TextEdgeTest {
         // beside one another they are not within one another
         sound("cools " + "(".repeat(7) + "1" + ")".repeat(7) + "+" + "(".repeat(7) + "1" + ")".repeat(7) + ";");
         sound("cools " + "not ".repeat(7) + "1 and " + "not ".repeat(7) + "1;");
+        sound("cools " + ("not ".repeat(7) + "1 or ").repeat(29) + "not ".repeat(7) + "0;");
     }
 
     // ---- faults

@@ -140,163 +140,140 @@ final class TextTest {
         Due.is(4, "and all is as told by it", x.about(2), 0);
     }
 
-    /** A text without a fault. */
-    private static void sound(String text, int guests) {
-        GravyRound x = new GravyRound();
-        Due.put(x, text);
-        Due.is(4, "dinner() of [" + text + "]", x.dinner(), guests);
-        Due.is(5, "fault(0) of [" + text + "]", x.fault(0), 0);
-        Due.is(5, "fault(1) of [" + text + "]", x.fault(1), -1);
-    }
-
-    private static void faulty(String text, int kind, int place) {
-        GravyRound x = new GravyRound();
-        Due.put(x, text);
-        Due.is(4, "dinner() of [" + text + "]", x.dinner(), -1);
-        Due.is(5, "fault(0) of [" + text + "]", x.fault(0), kind);
-        Due.is(5, "fault(1) of [" + text + "]", x.fault(1), place);
-    }
-
-    /** A fault at the place of the mark, which is taken out. */
-    private static void faultyAt(String text, int kind) {
-        int place = text.indexOf('!');
-        faulty(text.substring(0, place) + text.substring(place + 1), kind, place);
-    }
-
     private static void soundTexts() {
-        sound("", 0);
-        sound(" \n  ", 0);
-        sound("boat 0;heat 0;across 0;leans 0;draw 0;", 0);
-        sound("boat 99;heat 99;across 9;leans 100;draw 999;cools 9999;", 0);
-        sound("boat5;heat 0007 ;across\n3;", 0);
-        sound("guest abcdefgh takes 0 slow 1;guest z takes 20 slow 9;feud z abcdefgh;", 2);
-        sound("guest\na\ntakes\n1\nslow\n1\n;\n", 1);
+        Edges.sound("", 0);
+        Edges.sound(" \n  ", 0);
+        Edges.sound("boat 0;heat 0;across 0;leans 0;draw 0;", 0);
+        Edges.sound("boat 99;heat 99;across 9;leans 100;draw 999;cools 9999;", 0);
+        Edges.sound("boat5;heat 0007 ;across\n3;", 0);
+        Edges.sound("guest abcdefgh takes 0 slow 1;guest z takes 20 slow 9;feud z abcdefgh;", 2);
+        Edges.sound("guest\na\ntakes\n1\nslow\n1\n;\n", 1);
     }
 
     private static void tokenFaults() {
-        faultyAt("!@", 1);
-        faultyAt("  !A", 1);
-        faultyAt("boat 5;!\t", 1);
-        faultyAt("boat 5;!" + (char) 233, 1);
-        faultyAt("boat 5;!" + (char) 0, 1);
-        faultyAt("boat !12345;", 1);
-        faultyAt("boat !00001;", 1);
-        faultyAt("boat !5a;", 1);
-        faultyAt("boat 5!,", 1);
-        faultyAt("guest !abcdefghi takes 1 slow 1;", 1);
-        faultyAt("guest a takes !1slow 1;", 1);
-        faultyAt("cools !1or 1;", 1);
-        faultyAt("cools 1 !_ 1;", 1);
+        Edges.faultyAt("!@", 1);
+        Edges.faultyAt("  !A", 1);
+        Edges.faultyAt("boat 5;!\t", 1);
+        Edges.faultyAt("boat 5;!" + (char) 233, 1);
+        Edges.faultyAt("boat 5;!" + (char) 0, 1);
+        Edges.faultyAt("boat !12345;", 1);
+        Edges.faultyAt("boat !00001;", 1);
+        Edges.faultyAt("boat !5a;", 1);
+        Edges.faultyAt("boat 5!,", 1);
+        Edges.faultyAt("guest !abcdefghi takes 1 slow 1;", 1);
+        Edges.faultyAt("guest a takes !1slow 1;", 1);
+        Edges.faultyAt("cools !1or 1;", 1);
+        Edges.faultyAt("cools 1 !_ 1;", 1);
         // the first by its place
-        faultyAt("boat !100;@", 4);
-        faultyAt("boat !;@", 2);
+        Edges.faultyAt("boat !100;@", 4);
+        Edges.faultyAt("boat !;@", 2);
     }
 
     private static void lineFaults() {
-        faultyAt("boat 5!", 2);
-        faultyAt("boat 5 \n !", 2);
-        faultyAt("boat!", 2);
-        faultyAt("boat !;", 2);
-        faultyAt("boat !boat 5;", 2);
-        faultyAt("boat 5 !5;", 2);
-        faultyAt("!;", 2);
-        faultyAt("boat 5;!;", 2);
-        faultyAt("!5;", 2);
-        faultyAt("!lady 5;", 2);
-        faultyAt("!guests 5;", 2);
-        faultyAt("!minute 5;", 2);
-        faultyAt("boat !100;", 4);
-        faultyAt("heat !100;", 4);
-        faultyAt("across !10;", 4);
-        faultyAt("leans !101;", 4);
-        faultyAt("draw !1000;", 4);
+        Edges.faultyAt("boat 5!", 2);
+        Edges.faultyAt("boat 5 \n !", 2);
+        Edges.faultyAt("boat!", 2);
+        Edges.faultyAt("boat !;", 2);
+        Edges.faultyAt("boat !boat 5;", 2);
+        Edges.faultyAt("boat 5 !5;", 2);
+        Edges.faultyAt("!;", 2);
+        Edges.faultyAt("boat 5;!;", 2);
+        Edges.faultyAt("!5;", 2);
+        Edges.faultyAt("!lady 5;", 2);
+        Edges.faultyAt("!guests 5;", 2);
+        Edges.faultyAt("!minute 5;", 2);
+        Edges.faultyAt("boat !100;", 4);
+        Edges.faultyAt("heat !100;", 4);
+        Edges.faultyAt("across !10;", 4);
+        Edges.faultyAt("leans !101;", 4);
+        Edges.faultyAt("draw !1000;", 4);
         for (String word : new String[] {"boat", "heat", "across", "leans", "draw", "cools"}) {
-            faultyAt(word + " 1;!" + word + " 1;", 2);
+            Edges.faultyAt(word + " 1;!" + word + " 1;", 2);
         }
-        faultyAt(A + "boat 1;heat 1;!boat 100;", 2);
+        Edges.faultyAt(A + "boat 1;heat 1;!boat 100;", 2);
     }
 
     private static void guestAndFeudFaults() {
         for (String word : OWN_WORDS) {
-            faultyAt("guest !" + word + " takes 1 slow 1;", 2);
-            faultyAt(A + "feud !" + word + " a;", 2);
-            faultyAt(A + "feud a !" + word + ";", 2);
+            Edges.faultyAt("guest !" + word + " takes 1 slow 1;", 2);
+            Edges.faultyAt(A + "feud !" + word + " a;", 2);
+            Edges.faultyAt(A + "feud a !" + word + ";", 2);
         }
-        faultyAt("guest !5 takes 1 slow 1;", 2);
-        faultyAt("guest a !slow 1;", 2);
-        faultyAt("guest a takes !slow 1;", 2);
-        faultyAt("guest a takes 1 !;", 2);
-        faultyAt("guest a takes 1 slow 1!", 2);
-        faultyAt("guest a takes !21 slow 1;", 4);
-        faultyAt("guest a takes 1 slow !0;", 4);
-        faultyAt("guest a takes 1 slow !10;", 4);
-        faultyAt(A + "guest !a takes 1 slow 1;", 3);
-        faultyAt(A + "feud a !a;", 3);
-        faultyAt(AB + "feud a b;feud a !b;", 3);
-        faultyAt(AB + "feud a b;feud b !a;", 3);
-        faultyAt("feud !a b;" + AB, 5);
-        faultyAt(A + "feud a !b;" + "guest b takes 1 slow 1;", 5);
-        faultyAt(A + "feud !b a;", 5);
-        faultyAt(AB + "feud a b!", 2);
+        Edges.faultyAt("guest !5 takes 1 slow 1;", 2);
+        Edges.faultyAt("guest a !slow 1;", 2);
+        Edges.faultyAt("guest a takes !slow 1;", 2);
+        Edges.faultyAt("guest a takes 1 !;", 2);
+        Edges.faultyAt("guest a takes 1 slow 1!", 2);
+        Edges.faultyAt("guest a takes !21 slow 1;", 4);
+        Edges.faultyAt("guest a takes 1 slow !0;", 4);
+        Edges.faultyAt("guest a takes 1 slow !10;", 4);
+        Edges.faultyAt(A + "guest !a takes 1 slow 1;", 3);
+        Edges.faultyAt(A + "feud a !a;", 3);
+        Edges.faultyAt(AB + "feud a b;feud a !b;", 3);
+        Edges.faultyAt(AB + "feud a b;feud b !a;", 3);
+        Edges.faultyAt("feud !a b;" + AB, 5);
+        Edges.faultyAt(A + "feud a !b;" + "guest b takes 1 slow 1;", 5);
+        Edges.faultyAt(A + "feud !b a;", 5);
+        Edges.faultyAt(AB + "feud a b!", 2);
         String seven = "";
         for (char c = 'a'; c <= 'g'; c++) {
             seven += "guest " + c + " takes 1 slow 1;";
         }
-        sound(seven, 7);
-        faultyAt(seven + "!guest h takes 1 slow 1;", 2);
+        Edges.sound(seven, 7);
+        Edges.faultyAt(seven + "!guest h takes 1 slow 1;", 2);
         String ten = seven + "feud a b;feud a c;feud a d;feud a e;feud a f;feud a g;feud b c;feud b d;feud b e;feud b f;";
-        sound(ten, 7);
-        faultyAt(ten + "!feud b g;", 2);
-        faultyAt(ten + "!feud a b;", 2);
+        Edges.sound(ten, 7);
+        Edges.faultyAt(ten + "!feud b g;", 2);
+        Edges.faultyAt(ten + "!feud a b;", 2);
         GravyRound x = Due.dine(ten);
         Due.is(49, "about(1)", x.about(1), 10);
         Due.is(8, "feud(9, 1)", x.feud(9, 1), 5);
     }
 
     private static void formulaFaults() {
-        faultyAt("cools !;", 2);
-        faultyAt("cools 1 !2;", 2);
-        faultyAt("cools 1+!;", 2);
-        faultyAt("cools !-1;", 2);
-        faultyAt("cools 1<2!<3;", 2);
-        faultyAt("cools 1<!not 2;", 2);
-        faultyAt("cools 1+!not 2;", 2);
-        faultyAt("cools (1!;", 2);
-        faultyAt("cools 1!);", 2);
-        faultyAt("cools (!);", 2);
-        faultyAt("cools not !;", 2);
-        faultyAt("cools 1 and !;", 2);
-        faultyAt("cools 1 or !or 1;", 2);
+        Edges.faultyAt("cools !;", 2);
+        Edges.faultyAt("cools 1 !2;", 2);
+        Edges.faultyAt("cools 1+!;", 2);
+        Edges.faultyAt("cools !-1;", 2);
+        Edges.faultyAt("cools 1<2!<3;", 2);
+        Edges.faultyAt("cools 1<!not 2;", 2);
+        Edges.faultyAt("cools 1+!not 2;", 2);
+        Edges.faultyAt("cools (1!;", 2);
+        Edges.faultyAt("cools 1!);", 2);
+        Edges.faultyAt("cools (!);", 2);
+        Edges.faultyAt("cools not !;", 2);
+        Edges.faultyAt("cools 1 and !;", 2);
+        Edges.faultyAt("cools 1 or !or 1;", 2);
         // what is missing directly ahead of the line's end
         for (String sign : new String[] {"or", "and", "<", ">", "=", "+", "-", "*", "/", "%"}) {
-            faultyAt("cools 1 " + sign + " !;", 2);
-            faultyAt("cools (1 " + sign + " !);", 2);
+            Edges.faultyAt("cools 1 " + sign + " !;", 2);
+            Edges.faultyAt("cools (1 " + sign + " !);", 2);
         }
-        faultyAt("cools !boat;", 2);
-        faultyAt("cools !lady;", 2);
-        faultyAt("cools 1!", 2);
+        Edges.faultyAt("cools !boat;", 2);
+        Edges.faultyAt("cools !lady;", 2);
+        Edges.faultyAt("cools 1!", 2);
     }
 
     private static void formulaLimits() {
         String thirty = "1" + "+1".repeat(29);
-        sound("cools " + thirty + ";", 0);
+        Edges.sound("cools " + thirty + ";", 0);
         Due.is(49, "units", Due.dine("cools " + thirty + ";").about(13), 30);
         Due.is(49, "units", Due.dine("cools (1)+((heat));").about(13), 5);
-        faultyAt("cools " + thirty + "+!1;", 2);
-        faultyAt("cools " + thirty + "+!(1);", 2);
+        Edges.faultyAt("cools " + thirty + "+!1;", 2);
+        Edges.faultyAt("cools " + thirty + "+!(1);", 2);
         // the brackets are a unit too
-        faultyAt("cools (" + "1+".repeat(29) + "!1);", 2);
-        sound("cools (" + "1+".repeat(28) + "1);", 0);
-        sound("cools " + "(".repeat(7) + "1" + ")".repeat(7) + ";", 0);
-        faultyAt("cools " + "(".repeat(7) + "!(1" + ")".repeat(8) + ";", 2);
-        sound("cools " + "not ".repeat(7) + "1;", 0);
-        faultyAt("cools " + "not ".repeat(7) + "!not 1;", 2);
-        sound("cools " + "not(".repeat(3) + "not 1" + ")".repeat(3) + ";", 0);
+        Edges.faultyAt("cools (" + "1+".repeat(29) + "!1);", 2);
+        Edges.sound("cools (" + "1+".repeat(28) + "1);", 0);
+        Edges.sound("cools " + "(".repeat(7) + "1" + ")".repeat(7) + ";", 0);
+        Edges.faultyAt("cools " + "(".repeat(7) + "!(1" + ")".repeat(8) + ";", 2);
+        Edges.sound("cools " + "not ".repeat(7) + "1;", 0);
+        Edges.faultyAt("cools " + "not ".repeat(7) + "!not 1;", 2);
+        Edges.sound("cools " + "not(".repeat(3) + "not 1" + ")".repeat(3) + ";", 0);
         // seven others are: three nots, three brackets, one not; the bracket behind them is within all of these
-        faultyAt("cools " + "not(".repeat(3) + "not !(1)" + ")".repeat(3) + ";", 2);
-        faultyAt("cools " + "(not ".repeat(3) + "(!not 1)" + ")".repeat(3) + ";", 2);
+        Edges.faultyAt("cools " + "not(".repeat(3) + "not !(1)" + ")".repeat(3) + ";", 2);
+        Edges.faultyAt("cools " + "(not ".repeat(3) + "(!not 1)" + ")".repeat(3) + ";", 2);
         // what is within no other again may go as deep again
-        sound("cools " + "((((((1))))))+((((((1))))));", 0);
+        Edges.sound("cools " + "((((((1))))))+((((((1))))));", 0);
     }
 
     /** How much the heat of 99 is less behind one minute. */
