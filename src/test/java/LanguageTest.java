@@ -1,3 +1,4 @@
+import java.io.IOException;
 import java.lang.reflect.Constructor;
 import java.lang.reflect.Field;
 import java.lang.reflect.Method;
@@ -8,6 +9,8 @@ import java.util.ArrayList;
 import java.util.Arrays;
 import java.util.List;
 import java.util.TreeSet;
+import java.util.regex.Matcher;
+import java.util.regex.Pattern;
 
 /** The rules of LANGUAGE.md that a program can look at: the face, what may not stand in the source, the sizes. */
 final class LanguageTest {
@@ -42,7 +45,17 @@ final class LanguageTest {
         }
     }
 
-    private static void face() {
+    /** The methods of the document's own listing, in the form that FACE has. */
+    private static TreeSet<String> faceOf(String text) {
+        TreeSet<String> all = new TreeSet<>();
+        Matcher m = Pattern.compile("(?m)^    public (int|boolean) (\\w+)\\(([^)]*)\\);").matcher(text);
+        while (m.find()) {
+            all.add(m.group(2) + "(" + m.group(3).replaceAll("(\\w+) \\w+", "$1").replace(" ", "") + ")" + m.group(1));
+        }
+        return all;
+    }
+
+    private static void face() throws IOException {
         TreeSet<String> has = new TreeSet<>();
         for (Method m : GravyRound.class.getDeclaredMethods()) {
             if (Modifier.isPublic(m.getModifiers())) {
@@ -53,6 +66,10 @@ final class LanguageTest {
         }
         TreeSet<String> due = new TreeSet<>(Arrays.asList(FACE.split(" ")));
         rule(1, has.equals(due), "the face is " + has);
+        Path document = Path.of("../shared/DOC.md");
+        if (Files.isReadable(document)) {
+            rule(1, due.equals(faceOf(Files.readString(document))), "the document's face is " + faceOf(Files.readString(document)));
+        }
         int mods = GravyRound.class.getModifiers();
         rule(1, Modifier.isPublic(mods) && Modifier.isFinal(mods), "the class is public and final");
         for (Constructor<?> c : GravyRound.class.getDeclaredConstructors()) {
