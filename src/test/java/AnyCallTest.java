@@ -16,7 +16,7 @@ final class AnyCallTest {
     private static final String FULL = "guest a takes 3 slow 9;guest b takes 4 slow 1;guest c takes 5 slow 9;"
         + "guest d takes 20 slow 9;guest e takes 0 slow 2;guest f takes 5 slow 9;guest g takes 9 slow 9;"
         + "feud a b;feud b c;feud c d;feud d e;feud e f;feud f g;feud a c;feud a d;feud a e;feud a f;"
-        + "boat 99;heat 99;across 9;leans 50;draw 1;cools (minute%3<(left+heat)/guests)-(not not seat=9999*9999*99/(0-1));";
+        + "boat 99;heat 99;across 9;leans 50;draw 1;cools (minute%seat<(left+heat)/(seat-2))-(not not seat=9999*9999*99/(0-1));";
     private static final int[] EDGES = {-1, 0, 1, 2, 6, 7, 9, 10, 19, 20, 21, 29, 30, 31, 32, 40, 41, 50, 51, 99, 100, 200, 201,
         999, 1000, 1001, 1599, 1600, 1601, -2, -7, -8, -32, Integer.MIN_VALUE, Integer.MIN_VALUE + 1, Integer.MAX_VALUE};
 
@@ -43,8 +43,12 @@ final class AnyCallTest {
                 x.dinner();
             }
         }
+        // two that come often fill what has a limit: the tape, what is seen, the acts
+        Method often = face.get(run % face.size());
+        Method too = face.get(r.nextInt(face.size()));
         for (int i = 0; i < CALLS; i++) {
-            Method m = face.get(r.nextInt(face.size()));
+            int which = r.nextInt(4);
+            Method m = which == 0 ? often : which == 1 ? too : face.get(r.nextInt(face.size()));
             Object[] with = new Object[m.getParameterCount()];
             for (int p = 0; p < with.length; p++) {
                 with[p] = m.getParameterTypes()[p] == boolean.class ? (Object) r.nextBoolean() : (Object) number(r, m);
@@ -59,13 +63,14 @@ final class AnyCallTest {
         sane(x, run);
     }
 
+    /** Bytes of words for feed, else any number, one at some edge, or a small one. */
     private static int number(Random r, Method m) {
         if (m.getName().equals("feed") && r.nextBoolean()) {
             int at = r.nextInt(FULL.length() - 4);
             byte[] four = FULL.substring(at, at + 4).getBytes(StandardCharsets.ISO_8859_1);
             return four[0] << 24 | four[1] << 16 | four[2] << 8 | four[3];
         }
-        switch (r.nextInt(3)) {
+        switch (r.nextInt(8)) {
             case 0: return r.nextInt();
             case 1: return EDGES[r.nextInt(EDGES.length)];
             default: return r.nextInt(8);
